@@ -1,0 +1,35 @@
+/** Promise 19: count. */
+public final class CountTest {
+    public static void main(String[] args) {
+        Script.run("each number", """
+            append(0, 0, 5, 3) = 0
+            append(0, 0, 5, 0) = -99
+            count(0) = 1
+            count(1) = 1
+            count(2) = 2
+            count(3) = 0
+            lose() = 2
+            count(3) = 1
+            count(2) = 2
+            up(1, false) = 0
+            change(0, 0, 5) = 1
+            count(0) = 2
+            count(1) = 2
+            count(2) = 1
+            count(3) = 0
+            count(4) = 2
+            count(5) = 0
+            count(6) = 2
+            count(7) = 2
+            count(8) = 2
+            count(9) = 0
+            change(0, 1, 6) = 1
+            count(4) = 2
+            count(6) = 3
+            count(8) = 3
+            count(9) = 3
+            """);
+        Script.refuse("numbers out of range", "", "count(-1)", "count(10)", "count(-2147483648)");
+        Script.end();
+    }
+}
