@@ -80,7 +80,7 @@ public final class AppendTest {
             append(0, 0, 1, 0) = -98
             count(2) = 3
             """);
-        Script.run("a later unit has something: the first one is written all the same", """
+        Script.run("the first unit has an entry left from before: the later one is not written", """
             up(3, false) = 0
             append(0, 0, 1, 3) = 0
             append(0, 0, 1, 3) throws IllegalStateException

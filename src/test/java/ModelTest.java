@@ -11,7 +11,8 @@ import java.util.TreeMap;
 public final class ModelTest {
     private static final int RUNS = 6000;
     private static final int CALLS = 160;
-    private static final int[] ROWS = {1, 2, 3, 4, 5, 6, 12, 21, 34, 43, 56, 15, 35, 123, 456, 516, 231, 0, 7, 11, 121, 1234};
+    private static final int[] ROWS = {
+        1, 2, 3, 4, 5, 6, 12, 21, 34, 43, 56, 15, 35, 123, 456, 516, 231, 0, 7, 11, 121, 1234};
     /** The calls that do something come more often than those that only tell. */
     private static final String[] NAMES = {
         "append", "append", "append", "append", "read", "fill", "fill", "trim", "learn", "learn", "change",
@@ -79,7 +80,7 @@ public final class ModelTest {
     private int[] arguments(String name) {
         int client = number(4);
         switch (name) {
-            case "append": return new int[] {client, number(4), chance.nextInt(), chance.nextInt(3) > 0 ? 3 : number(4)};
+            case "append": return new int[] {client, number(4), chance.nextInt(), most()};
             case "read", "fill": return new int[] {client, offset()};
             case "trim": return new int[] {client, chance.nextInt(3) > 0 ? number(4) : offset()};
             case "look": return new int[] {number(6), offset()};
@@ -96,7 +97,15 @@ public final class ModelTest {
 
     /** Mostly about the end of the log, where holes are. */
     private int offset() {
-        return chance.nextBoolean() ? number(60) : Math.max(0, Math.min(59, model.call("count", new int[] {2}) - chance.nextInt(4)));
+        if (chance.nextBoolean()) {
+            return number(60);
+        }
+        int next = model.call("count", new int[] {2});
+        return Math.max(0, Math.min(59, next - chance.nextInt(4)));
+    }
+
+    private int most() {
+        return chance.nextInt(3) > 0 ? 3 : number(4);
     }
 
     private int number(int limit) {

@@ -21,7 +21,7 @@ final class Script {
         }
     }
 
-    /** The same call for every argument list, each of which is out of range. */
+    /** Calls that each have a number out of range, on one object, after the rows that prepare it. */
     static void refuse(String title, String prepare, String... calls) {
         StringBuilder text = new StringBuilder(prepare).append('\n');
         for (String call : calls) {

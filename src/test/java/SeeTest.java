@@ -55,7 +55,8 @@ public final class SeeTest {
             drop(1) = 0
             see(1, 0) throws IllegalStateException
             """);
-        Script.refuse("numbers out of range, before anything else", "", "see(-1, 0)", "see(4, 0)", "see(0, -1)", "see(0, 4)");
+        Script.refuse("numbers out of range, before anything else", "",
+            "see(-1, 0)", "see(4, 0)", "see(0, -1)", "see(0, 4)");
         Script.end();
     }
 }
