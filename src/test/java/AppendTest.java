@@ -109,6 +109,43 @@ public final class AppendTest {
             append(0, 0, 0, 4) throws IllegalArgumentException
             count(2) = 0
             """);
+        edges();
         Script.end();
+    }
+
+    private static void edges() {
+        Script.run("the first and the last client and register", """
+            append(0, 0, 5, 3) = 0
+            append(3, 3, 6, 3) = 1
+            sync(1) = 2
+            get(1, 0) = 5
+            get(1, 3) = 6
+            get(1, 1) = 0
+            get(1, 2) = 0
+            """);
+        Script.run("as many units as the chain has, one fewer, and more", """
+            append(0, 0, 5, 2) = 0
+            append(0, 0, 5, 1) = -99
+            append(0, 0, 5, 3) = 2
+            append(0, 0, 5, 0) = -97
+            """);
+        Script.run("the greatest offset, with and without more units", "append(0, 0, 1, 0)\n".repeat(58) + """
+            append(0, 0, 5, 1) = -42
+            append(0, 0, 5, 2) = 59
+            """);
+        Script.same("it plays nothing, and the writer's registers stay", """
+            append(0, 0, 5, 0) = -100
+            get(0, 0) = 0
+            client(0, 1) = 0
+            client(0, 2) = 0
+            """, "append(3, 3, 9, 0) = -100");
+        Script.run("a transaction of the writer has nothing to do with it", """
+            begin(0) = 0
+            put(0, 0, 1) = 1
+            append(0, 0, 5, 3) = 0
+            see(0, 0) = 1
+            drop(0) = 1
+            read(0, 0) = 5
+            """);
     }
 }

@@ -31,6 +31,34 @@ public final class ClientTest {
             client(1, 8) = 0
             """);
         Script.refuse("numbers out of range", "", "client(-1, 0)", "client(4, 0)", "client(0, -1)", "client(0, 9)");
+        edges();
         Script.end();
+    }
+
+    private static void edges() {
+        Script.run("the greatest numbers: position 60 and age 60", "append(0, 3, 1, 3)\n".repeat(60) + """
+            sync(3) = 60
+            client(3, 1) = 60
+            client(3, 5) = 60
+            client(3, 2) = 0
+            client(3, 4) = 0
+            """);
+        Script.run("rows of one and of three units", """
+            change(3, 0, 1) = 0
+            change(3, 1, 654) = 0
+            client(3, 6) = 1
+            client(3, 7) = 654
+            change(3, 0, 123) = 0
+            client(3, 6) = 123
+            client(3, 7) = 654
+            client(3, 0) = 4
+            client(0, 0) = 1
+            """);
+        Script.same("it only tells", """
+            begin(0) = 0
+            client(0, 0) = 1
+            client(0, 1) = 0
+            client(0, 8) = 1
+            """, "begin(0) = 0");
     }
 }

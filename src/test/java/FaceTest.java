@@ -9,10 +9,31 @@ import java.util.TreeSet;
 /** The public face of the document, and rule 1 of LANGUAGE.md. */
 public final class FaceTest {
     private static final Set<String> FACE = new TreeSet<>(List.of(
-        "int append(int,int,int,int)", "int read(int,int)", "int fill(int,int)", "int trim(int,int)",
-        "int learn(int)", "int change(int,int,int)", "int up(int,boolean)", "int lose()", "int sync(int)",
-        "int get(int,int)", "int begin(int)", "int see(int,int)", "int put(int,int,int)", "boolean commit(int)",
-        "int drop(int)", "int look(int,int)", "int client(int,int)", "int count(int)"));
+        "int append(int,int,int,int) throws "
+            + "IllegalArgumentException,IllegalStateException,UnsupportedOperationException,"
+            + "IndexOutOfBoundsException",
+        "int read(int,int) throws "
+            + "IllegalArgumentException,IllegalStateException,NoSuchElementException,"
+            + "UnsupportedOperationException,IndexOutOfBoundsException",
+        "int fill(int,int) throws IllegalArgumentException,IllegalStateException",
+        "int trim(int,int) throws IllegalArgumentException,IllegalStateException",
+        "int learn(int) throws IllegalArgumentException",
+        "int change(int,int,int) throws IllegalArgumentException,IllegalStateException",
+        "int up(int,boolean) throws IllegalArgumentException",
+        "int lose()",
+        "int sync(int) throws "
+            + "IllegalArgumentException,IllegalStateException,NoSuchElementException,IndexOutOfBoundsException",
+        "int get(int,int) throws IllegalArgumentException",
+        "int begin(int) throws IllegalArgumentException,IllegalStateException",
+        "int see(int,int) throws IllegalArgumentException,IllegalStateException",
+        "int put(int,int,int) throws IllegalArgumentException,IllegalStateException",
+        "boolean commit(int) throws "
+            + "IllegalArgumentException,IllegalStateException,NoSuchElementException,"
+            + "UnsupportedOperationException,IndexOutOfBoundsException",
+        "int drop(int) throws IllegalArgumentException",
+        "int look(int,int) throws IllegalArgumentException",
+        "int client(int,int) throws IllegalArgumentException",
+        "int count(int) throws IllegalArgumentException"));
     private static int wrong = 0;
 
     public static void main(String[] args) {
@@ -73,7 +94,15 @@ public final class FaceTest {
         for (Class<?> type : method.getParameterTypes()) {
             text.append(text.length() == 0 ? "" : ",").append(type.getName());
         }
-        return method.getReturnType().getName() + " " + method.getName() + "(" + text + ")";
+        return method.getReturnType().getName() + " " + method.getName() + "(" + text + ")" + thrown(method);
+    }
+
+    private static String thrown(Method method) {
+        StringBuilder text = new StringBuilder();
+        for (Class<?> type : method.getExceptionTypes()) {
+            text.append(text.length() == 0 ? " throws " : ",").append(type.getSimpleName());
+        }
+        return text.toString();
     }
 
     private static void require(boolean holds, String what) {

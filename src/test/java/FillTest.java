@@ -86,6 +86,86 @@ public final class FillTest {
             """);
         Script.refuse("numbers out of range, before anything else", "up(0, false)\nup(2, false)",
             "fill(-1, 0)", "fill(4, 0)", "fill(0, -1)", "fill(0, 60)");
+        edges();
         Script.end();
+    }
+
+    private static void edges() {
+        Script.run("the least and the greatest offset, for the first and the last client", """
+            fill(0, 0) = 2
+            fill(3, 0) = 0
+            fill(3, 59) = 2
+            fill(0, 59) = 0
+            fill(3, 58) = 2
+            look(0, 0) = 3
+            look(1, 58) = 3
+            look(3, 59) = 3
+            """);
+        Script.run("a chain of one unit: 1 or 0", """
+            change(0, 0, 6) = 0
+            fill(0, 0) = 1
+            look(5, 0) = 3
+            fill(0, 0) = 0
+            """);
+        Script.run("a chain of three units: 3, 2, 1 and 0", """
+            change(0, 0, 456) = 0
+            fill(0, 58) = 3
+            append(0, 0, 5, 1) = -100
+            fill(0, 0) = 2
+            append(0, 0, 5, 0) = -99
+            append(0, 0, 5, 2) = -98
+            fill(0, 2) = 1
+            append(0, 0, 5, 0) = -97
+            append(0, 0, 5, 3) = 4
+            fill(0, 4) = 0
+            look(3, 58) = 3
+            look(5, 0) = 1
+            look(5, 2) = 1
+            """);
+        Script.run("junk of the first unit goes on", """
+            up(1, false) = 0
+            fill(0, 0) throws IllegalStateException
+            look(0, 0) = 3
+            up(1, true) = 0
+            fill(0, 0) = 1
+            look(1, 0) = 3
+            read(0, 0) throws UnsupportedOperationException
+            """);
+        Script.run("a trim of the first unit leaves what the others have", """
+            append(0, 0, 5, 3) = 0
+            up(1, false) = 0
+            trim(0, 0) throws IllegalStateException
+            up(1, true) = 0
+            fill(0, 0) = 0
+            look(0, 0) = 4
+            look(1, 0) = 1
+            read(0, 0) = 5
+            """);
+        Script.same("what the units before one that is not up got stays", """
+            change(0, 0, 456) = 0
+            append(0, 0, 5, 1) = -100
+            up(5, false) = 2
+            fill(0, 0) throws IllegalStateException
+            """, """
+            change(0, 0, 456) = 0
+            append(0, 0, 5, 2) = -100
+            """);
+        Script.same("the first unit is not up: nothing is done", """
+            up(0, false) = 0
+            fill(0, 0) throws IllegalStateException
+            """, "");
+        Script.same("a sealed first unit: nothing is done", """
+            change(1, 0, 12) = 0
+            fill(0, 0) throws IllegalStateException
+            """, "change(1, 0, 12) = 0");
+        Script.run("filled by one client, played by the others: the value and not the filler's", """
+            append(0, 3, 8, 1) = -100
+            fill(2, 0) = 1
+            sync(1) = 1
+            get(1, 3) = 8
+            client(1, 5) = 1
+            get(2, 3) = 0
+            client(2, 1) = 0
+            """);
     }
 }

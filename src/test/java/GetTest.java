@@ -28,6 +28,31 @@ public final class GetTest {
             commit(0) = true
             """);
         Script.refuse("numbers out of range", "", "get(-1, 0)", "get(4, 0)", "get(0, -1)", "get(0, 4)");
+        edges();
         Script.end();
+    }
+
+    private static void edges() {
+        Script.run("the first and the last register of the first and the last client", """
+            append(1, 0, 5, 3) = 0
+            append(1, 3, 6, 3) = 1
+            sync(0) = 2
+            sync(3) = 2
+            get(0, 0) = 5
+            get(0, 3) = 6
+            get(3, 0) = 5
+            get(3, 3) = 6
+            get(3, 1) = 0
+            get(3, 2) = 0
+            """);
+        Script.run("what a commit without effect put is not there", """
+            begin(0) = 0
+            see(0, 1) = 0
+            put(0, 0, 5) = 1
+            append(1, 1, 6, 3) = 0
+            commit(0) = false
+            get(0, 0) = 0
+            get(0, 1) = 6
+            """);
     }
 }

@@ -39,6 +39,35 @@ public final class LearnTest {
             count(3) = 1
             """);
         Script.refuse("numbers out of range", "", "learn(-1)", "learn(4)", "learn(2147483647)");
+        edges();
         Script.end();
+    }
+
+    private static void edges() {
+        Script.run("the first and the last client, each alone", """
+            change(1, 0, 56) = 0
+            learn(0) = 2
+            client(0, 0) = 2
+            client(3, 0) = 1
+            learn(3) = 2
+            client(3, 0) = 2
+            client(3, 6) = 56
+            client(2, 0) = 1
+            """);
+        Script.same("what is known already is learnt again without a change", """
+            append(0, 0, 5, 3) = 0
+            change(1, 0, 56) = 1
+            learn(1) = 2
+            learn(1) = 2
+            """, "append(0, 0, 5, 3) = 0\nchange(1, 0, 56) = 1");
+        Script.run("a layout is known as it was until the next learn", """
+            change(0, 0, 56) = 0
+            learn(1) = 2
+            change(0, 0, 12) = 0
+            client(1, 0) = 2
+            client(1, 6) = 56
+            learn(1) = 3
+            client(1, 6) = 12
+            """);
     }
 }

@@ -4,6 +4,9 @@ public final class NewObjectTest {
         sequencerAndSeals();
         clients();
         unitsAreUpAndEmpty();
+        unitsAreUpOneByOne();
+        chainsAtFirst();
+        noTransaction();
         objectsAreApart();
         Script.end();
     }
@@ -41,6 +44,39 @@ public final class NewObjectTest {
         }
         rows.append("change(0, 0, 123) = 0\nchange(0, 1, 456) = 0\n");
         Script.run("units at first", rows.toString());
+    }
+
+    /** A row refuses a unit that is not up. */
+    private static void unitsAreUpOneByOne() {
+        for (int digit = 1; digit <= 6; digit++) {
+            Script.run("unit " + (digit - 1) + " is up at first", "change(0, 0, " + digit + ") = 0");
+        }
+    }
+
+    private static void chainsAtFirst() {
+        for (int offset = 0; offset < 60; offset++) {
+            int first = offset % 2 == 0 ? 0 : 2;
+            StringBuilder rows = new StringBuilder("fill(0, " + offset + ") = 2\n");
+            for (int unit = 0; unit < 6; unit++) {
+                boolean inChain = unit == first || unit == first + 1;
+                rows.append("look(" + unit + ", " + offset + ") = " + (inChain ? 3 : 0) + "\n");
+            }
+            rows.append("up(" + first + ", false) = 0\n");
+            rows.append("read(0, " + offset + ") throws UnsupportedOperationException\n");
+            Script.run("the chain of offset " + offset, rows.toString());
+        }
+    }
+
+    private static void noTransaction() {
+        for (int client = 0; client < 4; client++) {
+            Script.run("client " + client + " has no transaction at first", """
+                see(%1$d, 0) throws IllegalStateException
+                put(%1$d, 0, 1) throws IllegalStateException
+                commit(%1$d) throws IllegalStateException
+                drop(%1$d) = -1
+                begin(%1$d) = 0
+                """.formatted(client));
+        }
     }
 
     private static void objectsAreApart() {

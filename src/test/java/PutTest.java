@@ -40,6 +40,47 @@ public final class PutTest {
             """);
         Script.refuse("numbers out of range, before anything else", "",
             "put(-1, 0, 0)", "put(4, 0, 0)", "put(0, -1, 0)", "put(0, 4, 0)");
+        edges();
         Script.end();
+    }
+
+    private static void edges() {
+        Script.run("from 1 to 4, and never more", """
+            begin(3) = 0
+            put(3, 0, 1) = 1
+            put(3, 3, 1) = 2
+            put(3, 1, 1) = 3
+            put(3, 2, 1) = 4
+            put(3, 0, 2) = 4
+            put(3, 1, 2) = 4
+            put(3, 2, 2) = 4
+            put(3, 3, 2) = 4
+            drop(3) = 4
+            """);
+        Script.run("what is read is not counted", """
+            begin(0) = 0
+            see(0, 0) = 0
+            see(0, 1) = 0
+            put(0, 2, 1) = 1
+            put(0, 0, 1) = 2
+            """);
+        Script.same("no transaction: nothing is put", """
+            put(0, 0, 5) throws IllegalStateException
+            put(3, 3, 5) throws IllegalStateException
+            """, "");
+        Script.run("what was refused before begin is not put", """
+            put(0, 0, 5) throws IllegalStateException
+            begin(0) = 0
+            drop(0) = 0
+            put(0, 0, 5) throws IllegalStateException
+            begin(0) = 0
+            put(0, 1, 5) = 1
+            see(0, 0) = 0
+            """);
+        Script.same("nothing is written before the commit", """
+            begin(0) = 0
+            put(0, 0, 5) = 1
+            drop(0) = 1
+            """, "");
     }
 }

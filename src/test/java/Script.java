@@ -1,23 +1,36 @@
 import java.lang.reflect.InvocationTargetException;
 import java.lang.reflect.Method;
+import java.util.ArrayList;
+import java.util.List;
 
 /**
  * Runs rows of calls on one new SharedLog each. A row is a call as in Java, followed by
  * "= answer", by "throws ExceptionName", or by nothing, when it only must not throw.
  */
 final class Script {
+    /** An object is made for so many calls. */
+    private static final int MOST_CALLS = 512;
+
     private static int rows = 0;
     private static int wrong = 0;
 
     private Script() {
     }
 
-    static void run(String title, String text) {
+    static SharedLog run(String title, String text) {
         SharedLog log = new SharedLog();
+        requireFew(title, text.lines().count());
         for (String line : text.split("\n")) {
             if (!line.isBlank()) {
                 check(log, title, line.strip());
             }
+        }
+        return log;
+    }
+
+    private static void requireFew(String title, long calls) {
+        if (calls > MOST_CALLS) {
+            throw new IllegalStateException(title + ": more calls than an object is made for");
         }
     }
 
@@ -28,6 +41,52 @@ final class Script {
             text.append(call).append(" throws IllegalArgumentException\n");
         }
         run(title, text.toString());
+    }
+
+    /**
+     * Runs two texts of rows on an object each, and compares all that can be seen of both then: so
+     * it is told that a refused call does nothing, or what a call did before it threw something.
+     */
+    static void same(String title, String text, String other) {
+        List<String> seen = picture(run(title, text));
+        List<String> due = picture(run(title, other));
+        requireFew(title, due.size() + Math.max(text.lines().count(), other.lines().count()));
+        for (int i = 0; i < due.size(); i++) {
+            if (!seen.get(i).equals(due.get(i))) {
+                wrong++;
+                System.out.println(title + ": afterwards " + seen.get(i) + ", due is " + due.get(i));
+            }
+        }
+    }
+
+    /** Answers to all calls that only tell, and to drop, which comes last since it does something. */
+    private static List<String> picture(SharedLog log) {
+        List<String> calls = new ArrayList<>();
+        numbered(calls, "look(%d, %d)", 6, 60);
+        numbered(calls, "client(%d, %d)", 4, 9);
+        numbered(calls, "get(%d, %d)", 4, 4);
+        numbered(calls, "count(%2$d)", 1, 10);
+        numbered(calls, "drop(%d)", 4, 1);
+        calls.replaceAll(call -> call + " " + answer(log, call));
+        return calls;
+    }
+
+    private static void numbered(List<String> calls, String form, int first, int second) {
+        for (int i = 0; i < first; i++) {
+            for (int j = 0; j < second; j++) {
+                calls.add(String.format(form, i, j));
+            }
+        }
+    }
+
+    /** A call that may do or throw anything but this exception, after the rows that prepare it. */
+    static void mustNot(String title, String exception, String prepare, String call) {
+        String got = answer(run(title, prepare), call);
+        rows++;
+        if (got.equals("throws " + exception)) {
+            wrong++;
+            System.out.println(title + ": " + call + " " + got);
+        }
     }
 
     static void end() {

@@ -57,6 +57,51 @@ public final class SeeTest {
             """);
         Script.refuse("numbers out of range, before anything else", "",
             "see(-1, 0)", "see(4, 0)", "see(0, -1)", "see(0, 4)");
+        edges();
         Script.end();
+    }
+
+    private static void edges() {
+        Script.run("the first and the last register of the last client", """
+            append(1, 0, 5, 3) = 0
+            append(1, 3, 6, 3) = 1
+            sync(3) = 2
+            begin(3) = 2
+            see(3, 0) = 5
+            see(3, 3) = 6
+            """);
+        Script.run("a put of 0 is seen as it is", """
+            append(1, 0, 5, 3) = 0
+            sync(0) = 1
+            begin(0) = 1
+            put(0, 0, 0) = 1
+            see(0, 0) = 0
+            """);
+        Script.run("a register seen at age 0, and put by another client since", """
+            begin(0) = 0
+            see(0, 3) = 0
+            append(1, 3, 0, 3) = 0
+            sync(0) = 1
+            see(0, 3) = 0
+            commit(0) = false
+            """);
+        Script.run("a register that is seen only after it was played", """
+            begin(0) = 0
+            append(1, 3, 5, 3) = 0
+            sync(0) = 1
+            see(0, 3) = 5
+            commit(0) = true
+            """);
+        Script.same("no transaction: nothing is read", """
+            see(0, 0) throws IllegalStateException
+            see(3, 3) throws IllegalStateException
+            """, "");
+        Script.run("what was refused before begin is not read", """
+            see(0, 0) throws IllegalStateException
+            begin(0) = 0
+            append(1, 0, 5, 3) = 0
+            sync(0) = 1
+            commit(0) = true
+            """);
     }
 }

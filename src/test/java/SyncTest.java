@@ -97,6 +97,55 @@ public final class SyncTest {
             sync(1) = 60
             """);
         Script.refuse("numbers out of range, before anything else", "lose()", "sync(-1)", "sync(4)");
+        edges();
         Script.end();
+    }
+
+    private static void edges() {
+        Script.run("lost, though nothing is to be played", """
+            sync(0) = 0
+            lose() = 0
+            sync(0) throws IllegalStateException
+            """);
+        Script.run("another epoch, though nothing is to be played", """
+            change(0, 0, 12) = 0
+            sync(1) throws IllegalStateException
+            sync(0) = 0
+            """);
+        Script.run("lost comes before a hole and before a trim", """
+            append(0, 0, 5, 0) = -100
+            lose() = 1
+            sync(0) throws IllegalStateException
+            trim(0, 0) = 2
+            sync(0) throws IllegalStateException
+            """);
+        Script.run("another epoch comes before a hole and before a trim", """
+            append(0, 0, 5, 3) = 0
+            append(0, 0, 5, 3) = 1
+            trim(0, 0) = 2
+            change(0, 0, 12) = 2
+            sync(1) throws IllegalStateException
+            learn(1) = 2
+            sync(1) throws NoSuchElementException
+            """);
+        Script.run("the first and the last client, each its own position", """
+            append(1, 0, 5, 3) = 0
+            sync(0) = 1
+            client(3, 1) = 0
+            sync(3) = 1
+            client(1, 1) = 0
+            get(3, 0) = 5
+            get(1, 0) = 0
+            """);
+        Script.run("a transaction stays open", """
+            append(1, 0, 5, 3) = 0
+            begin(0) = 0
+            put(0, 0, 7) = 1
+            sync(0) = 1
+            client(0, 8) = 1
+            see(0, 0) = 7
+            get(0, 0) = 5
+            drop(0) = 1
+            """);
     }
 }
