@@ -20,6 +20,7 @@ public final class ChangeTest {
         sealEdges();
         mergeEdges();
         nextEdges();
+        asManyAsAnObjectIsMadeFor();
         Script.end();
     }
 
@@ -506,6 +507,15 @@ public final class ChangeTest {
             get(0, 0) = 5
             commit(0) = true
             read(0, 1) = 1
+            """);
+    }
+
+    private static void asManyAsAnObjectIsMadeFor() {
+        Script.run("an epoch for each change", "change(0, 0, 12) = 0\n".repeat(508) + """
+            count(0) = 509
+            count(1) = 509
+            count(7) = 509
+            client(0, 0) = 509
             """);
     }
 

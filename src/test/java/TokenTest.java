@@ -5,6 +5,7 @@ public final class TokenTest {
     public static void main(String[] args) {
         refused();
         full();
+        outOfRange();
         taken();
         Script.end();
     }
@@ -100,6 +101,21 @@ public final class TokenTest {
             up(3, false) = 0
             append(0, 0, 5, 3) throws IndexOutOfBoundsException
             """);
+    }
+
+    private static void outOfRange() {
+        Script.same("a number out of range comes before NEXT is 60", ALL_60 + """
+            append(0, 0, 5, 4) throws IllegalArgumentException
+            append(0, 4, 5, 3) throws IllegalArgumentException
+            append(4, 0, 5, 3) throws IllegalArgumentException
+            commit(4) throws IllegalArgumentException
+            """, ALL_60);
+        Script.same("a number out of range comes before the token: none is taken", """
+            append(0, 0, 5, 4) throws IllegalArgumentException
+            append(0, 0, 5, -1) throws IllegalArgumentException
+            append(0, 4, 5, 3) throws IllegalArgumentException
+            append(0, -1, 5, 3) throws IllegalArgumentException
+            """, "");
     }
 
     private static void taken() {
