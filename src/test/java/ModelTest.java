@@ -9,8 +9,10 @@ import java.util.TreeMap;
  * often each call answered and threw what.
  */
 public final class ModelTest {
-    private static final int RUNS = 6000;
-    private static final int CALLS = 160;
+    /** An object is made for so many calls. */
+    private static final int MOST_CALLS = 512;
+    /** To look at all that can be seen takes so many calls. */
+    private static final int CALLS_TO_LOOK = 6 * 60 + 4 * 9 + 4 * 4 + 10 + 4;
     private static final int[] ROWS = {
         1, 2, 3, 4, 5, 6, 12, 21, 34, 43, 56, 15, 35, 123, 456, 516, 231, 0, 7, 11, 121, 1234};
     /** The calls that do something come more often than those that only tell. */
@@ -32,35 +34,70 @@ public final class ModelTest {
 
     public static void main(String[] args) {
         Map<String, Integer> answers = new TreeMap<>();
-        for (int seed = 0; seed < RUNS; seed++) {
+        for (int seed = 0; seed < 6000; seed++) {
+            new ModelTest(seed).play(160, answers);
+        }
+        for (int seed = 6000; seed < 6400; seed++) {
+            new ModelTest(seed).play(MOST_CALLS, answers);
+        }
+        for (int seed = 6400; seed < 8000; seed++) {
             ModelTest run = new ModelTest(seed);
-            for (int i = 0; i < CALLS; i++) {
-                if (!run.step(answers)) {
-                    System.out.println("run " + seed + ": " + String.join("\n", run.told));
-                    System.exit(1);
-                }
-            }
+            run.play(MOST_CALLS - CALLS_TO_LOOK, answers);
+            run.lookAtAll();
         }
         if (args.length > 0) {
             answers.forEach((what, times) -> System.out.println(what + ": " + times));
         }
     }
 
-    private boolean step(Map<String, Integer> answers) {
-        String name = NAMES[chance.nextInt(NAMES.length)];
-        if (isRare(name) && chance.nextInt(rareness) > 0 || name.equals("lose") && chance.nextInt(4) > 0) {
-            name = "sync";
+    private void play(int calls, Map<String, Integer> answers) {
+        for (int i = 0; i < calls; i++) {
+            String name = nextName();
+            String due = compare(name, arguments(name));
+            answers.merge(name + (due.startsWith("= ") && !name.equals("commit") ? "" : " " + due), 1, Integer::sum);
         }
-        int[] a = arguments(name);
+    }
+
+    private String nextName() {
+        String name = NAMES[chance.nextInt(NAMES.length)];
+        boolean skip = isRare(name) && chance.nextInt(rareness) > 0
+            || name.equals("lose") && chance.nextInt(4) > 0;
+        return skip ? "sync" : name;
+    }
+
+    /** Answers what is due; a run ends at the first answer that is another. */
+    private String compare(String name, int... a) {
         String due = due(name, a);
         String call = text(name, a);
         String got = Script.answer(log, call);
         told.add(call + " " + got);
-        answers.merge(name + (due.startsWith("= ") && !name.equals("commit") ? "" : " " + due), 1, Integer::sum);
         if (!got.equals(due)) {
             told.add("due is " + due);
+            System.out.println("a run: " + String.join("\n", told));
+            System.exit(1);
         }
-        return got.equals(due);
+        return due;
+    }
+
+    /** Drop comes last, since it does something. */
+    private void lookAtAll() {
+        compareEach("look", 6, 60);
+        compareEach("client", 4, 9);
+        compareEach("get", 4, 4);
+        for (int what = 0; what < 10; what++) {
+            compare("count", what);
+        }
+        for (int client = 0; client < 4; client++) {
+            compare("drop", client);
+        }
+    }
+
+    private void compareEach(String name, int first, int second) {
+        for (int i = 0; i < first; i++) {
+            for (int j = 0; j < second; j++) {
+                compare(name, i, j);
+            }
+        }
     }
 
     /** These make a log useless for long, so most runs see few of them. */
